@@ -33,7 +33,6 @@ public final class TransactionTest {
                 begin() = 2
                 begin() = 3
                 count(3) = 149
-                # that 3 are active is told before that the log is full
                 commit(3) = 0
                 count(3) = 150
                 begin() ! UnsupportedOperationException
@@ -42,21 +41,13 @@ public final class TransactionTest {
                 begin() = 4
                 abort(2) = 0
                 begin() = 5
-                setInt(1, 1, 0, 8) ! UnsupportedOperationException
-                begin() ! IllegalStateException
                 """);
-        script.run("2: three active is told before a full log", """
+        script.run("2: that three are active is told before that the log is full", """
                 begin() = 1
                 begin() = 2
                 begin() = 3
-                make(1, 1) = 1
-                48 * setInt(1, 1, 0, 7) = 1
-                count(3) = 149
-                commit(3) = 0
-                begin() ! UnsupportedOperationException
-                checkpoint() = 148
-                begin() = 4
-                make(4, 0) ! UnsupportedOperationException
+                49 * setRoot(1, 0, 0) = 1
+                count(3) = 150
                 begin() ! IllegalStateException
                 """);
     }
