@@ -324,7 +324,7 @@ public final class StableHeap {
             }
         }
         // The row grows while it is gone through; each object enters it once.
-        for (int i = 0; i < objectsHeld; i++) {
+        for (int i = 0; i < objectsHeld && i < held.length; i++) {
             holdTargets(held[i]);
         }
     }

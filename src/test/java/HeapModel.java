@@ -187,6 +187,14 @@ final class HeapModel {
         return "" + counts[what];
     }
 
+    List<Integer> activeTransactions() {
+        return new ArrayList<>(active);
+    }
+
+    List<Integer> objectsThere() {
+        return new ArrayList<>(sizes.keySet());
+    }
+
     private static String fieldName(int object, int field) {
         return object + "." + field;
     }

@@ -1,3 +1,6 @@
+import java.util.List;
+import java.util.Map;
+import java.util.TreeMap;
 import java.util.function.IntSupplier;
 
 /** All promises together: long runs of drawn calls, each answer compared with that of HeapModel. */
@@ -20,7 +23,7 @@ public final class RandomRunsTest {
 
     public static void main(String[] arguments) {
         int wrong = 0;
-        java.util.Map<String, Integer> outcomes = new java.util.TreeMap<>();
+        Map<String, Integer> outcomes = new TreeMap<>();
         for (int run = 0; run < RUNS && wrong < 5; run++) {
             wrong += new RandomRunsTest(run).play(run, outcomes) ? 0 : 1;
         }
@@ -30,7 +33,7 @@ public final class RandomRunsTest {
         }
     }
 
-    private boolean play(int run, java.util.Map<String, Integer> outcomes) {
+    private boolean play(int run, Map<String, Integer> outcomes) {
         StringBuilder told = new StringBuilder();
         for (int i = 0; i < CALLS; i++) {
             String got = outcome(draw());
@@ -63,13 +66,15 @@ public final class RandomRunsTest {
     }
 
     private int transaction() {
-        int begun = heapCount(5);
-        return oneIn(40) ? below(begun + 3) - 1 : Math.max(1, begun - below(4));
+        return oneOf(model.activeTransactions(), modelCount(5));
     }
 
     private int object() {
-        int handles = heapCount(1);
-        return oneIn(40) ? below(handles + 3) - 1 : Math.max(1, handles - below(Math.min(handles + 1, 12)));
+        return oneOf(model.objectsThere(), modelCount(1));
+    }
+
+    private int oneOf(List<Integer> fit, int last) {
+        return fit.isEmpty() || oneIn(25) ? below(last + 3) - 1 : fit.get(below(fit.size()));
     }
 
     private int target() {
@@ -85,7 +90,7 @@ public final class RandomRunsTest {
     }
 
     // Asked of the model alone, so that drawing does not use up the calls of the heap.
-    private int heapCount(int what) {
+    private int modelCount(int what) {
         return Integer.parseInt(model.count(what));
     }
 
@@ -96,8 +101,7 @@ public final class RandomRunsTest {
 
     private IntSupplier draw() {
         int choice = below(100);
-        boolean rare = oneIn(kind % 2 == 0 ? 2 : 8);
-        if (choice < 9 || choice >= 60 && choice < 64 && !rare) {
+        if (choice < 9) {
             tell("begin()", model.begin());
             return heap::begin;
         }
@@ -107,7 +111,8 @@ public final class RandomRunsTest {
         if (choice < 60) {
             return drawEnd();
         }
-        if (choice < 64) {
+        // Without this in half of the runs, the log would hardly ever be full.
+        if (choice < 64 && (kind % 2 == 0 || oneIn(8))) {
             return drawRecovery();
         }
         return choice < 84 ? drawRead(choice) : drawLook(choice);
@@ -157,7 +162,7 @@ public final class RandomRunsTest {
             tell("checkpoint()", model.checkpoint());
             return heap::checkpoint;
         }
-        int held = heapCount(7);
+        int held = modelCount(7);
         int copies = oneIn(2) ? -1 : held + below(5) - 2;
         tell("collect(" + copies + ")", model.collect(copies));
         return () -> heap.collect(copies);
