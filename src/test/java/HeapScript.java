@@ -1,5 +1,7 @@
-import java.lang.reflect.InvocationTargetException;
-import java.lang.reflect.Method;
+import java.util.ArrayList;
+import java.util.HashSet;
+import java.util.List;
+import java.util.Set;
 import java.util.regex.Matcher;
 import java.util.regex.Pattern;
 
@@ -7,26 +9,30 @@ import java.util.regex.Pattern;
  * Plays runs of calls, each on a new StableHeap. A line is a call with what is due: `call(1, 2) = 3` an
  * answer, `call(1, 2) ! E` an exception. `5 * call()` calls five times; `= 3 ..` is an answer that rises by
  * one each time. `counts = a b c d e f g h` asks count(0) to count(7). What follows # is a comment.
- * A call that throws is checked to have changed nothing, but for an ArithmeticException, which may lock.
+ * A call that is due to throw, or only looks, is checked to change nothing: two new heaps play all that has
+ * changed the run's heap so far, one of them that call too, and are then asked for everything.
  */
 final class HeapScript {
-    private static final int MOST_CALLS = 512;
-    private static final int COUNTS = 8;
-    private static final int ROOTS = 4;
-    private static final int MOST_HANDLES_SEEN = 8;
+    private static final Set<String> LOOKS = Set.of("count", "fields", "lockedBy");
     private static final Pattern CALL =
             Pattern.compile("(?:(\\d+) \\* )?(\\w+)\\(([^)]*)\\) (?:= (-?\\d+)( \\.\\.)?|! (\\w+))");
 
+    private record Call(String name, Integer[] arguments) { }
+
+    private final Set<String> titles = new HashSet<>();
     private int lines;
     private int wrong;
     private String title;
-    private StableHeap heap;
-    private int calls;
+    private HeapCalls heap;
+    private List<Call> changes;
 
     void run(String title, String script) {
         this.title = title;
-        heap = new StableHeap();
-        calls = 0;
+        heap = new HeapCalls();
+        changes = new ArrayList<>();
+        if (!titles.add(title)) {
+            tell("two runs have this title");
+        }
         for (String line : script.split("\n")) {
             String bare = line.replaceAll("#.*", "").trim();
             if (!bare.isEmpty()) {
@@ -34,13 +40,11 @@ final class HeapScript {
                 playLine(bare);
             }
         }
-        if (calls > MOST_CALLS) {
-            tell("the run makes " + calls + " calls, and nothing is promised after " + MOST_CALLS);
-        }
+        checkCalls(heap);
     }
 
     void finish() {
-        System.out.println(lines + " lines played, " + wrong + " wrong");
+        System.out.println(titles.size() + " runs of " + lines + " lines played, " + wrong + " wrong");
         if (wrong != 0 || lines == 0) {
             System.exit(1);
         }
@@ -48,7 +52,7 @@ final class HeapScript {
 
     private void playLine(String line) {
         if (line.startsWith("counts = ")) {
-            expect("counts", line.substring("counts = ".length()), counts());
+            expect("counts", line.substring("counts = ".length()), heap.counts());
             return;
         }
         Matcher parts = CALL.matcher(line);
@@ -57,72 +61,66 @@ final class HeapScript {
             return;
         }
         int times = parts.group(1) == null ? 1 : Integer.parseInt(parts.group(1));
+        Call call = new Call(parts.group(2), numbers(parts.group(3)));
         for (int i = 0; i < times; i++) {
-            playCall(line, parts, i);
+            String due = parts.group(6);
+            if (due == null) {
+                int rise = parts.group(5) == null ? 0 : i;
+                due = Integer.toString(Integer.parseInt(parts.group(4)) + rise);
+            }
+            playCall(line, call, due);
         }
     }
 
-    private void playCall(String line, Matcher parts, int turn) {
-        boolean throwing = parts.group(6) != null;
-        boolean mayLock = "ArithmeticException".equals(parts.group(6));
-        String before = throwing && !mayLock ? seen() : "";
-        String got = outcome(parts.group(2), numbers(parts.group(3)));
-        String due = parts.group(6);
-        if (!throwing) {
-            int rise = parts.group(5) == null ? 0 : turn;
-            due = Integer.toString(Integer.parseInt(parts.group(4)) + rise);
-        }
-        expect(line, due, got);
-        if (throwing && !mayLock) {
-            expect(line + ": what is seen behind it", before, seen());
+    private void playCall(String line, Call call, String due) {
+        expect(line, due, make(heap, call));
+        if (due.equals("ArithmeticException")) {
+            // A read of the right kind locks just as much.
+            Call right = new Call(call.name.equals("getInt") ? "getReference" : "getInt", call.arguments);
+            expectSame(line, call, right);
+            changes.add(call);
+        } else if (due.endsWith("Exception") || LOOKS.contains(call.name)) {
+            expectSame(line, call, null);
+        } else {
+            changes.add(call);
         }
     }
 
-    private String outcome(String name, Object[] arguments) {
-        calls++;
-        Class<?>[] types = new Class<?>[arguments.length];
-        java.util.Arrays.fill(types, int.class);
-        try {
-            Method method = StableHeap.class.getMethod(name, types);
-            return method.invoke(heap, arguments).toString();
-        } catch (InvocationTargetException e) {
-            return e.getCause().getClass().getSimpleName();
-        } catch (ReflectiveOperationException e) {
-            return e.toString();
-        }
+    private void expectSame(String line, Call call, Call other) {
+        expect(line + ": everything behind it", everythingBehind(other), everythingBehind(call));
     }
 
-    private static Object[] numbers(String text) {
+    private String everythingBehind(Call last) {
+        HeapCalls twin = new HeapCalls();
+        changes.forEach(call -> make(twin, call));
+        if (last != null) {
+            make(twin, last);
+        }
+        String everything = twin.everything();
+        checkCalls(twin);
+        return everything;
+    }
+
+    private static String make(HeapCalls heap, Call call) {
+        return heap.call(call.name, call.arguments);
+    }
+
+    private static Integer[] numbers(String text) {
         if (text.isBlank()) {
-            return new Object[0];
+            return new Integer[0];
         }
         String[] words = text.split(",");
-        Object[] numbers = new Object[words.length];
+        Integer[] numbers = new Integer[words.length];
         for (int i = 0; i < words.length; i++) {
-            numbers[i] = Integer.parseInt(words[i].trim());
+            numbers[i] = Integer.valueOf(words[i].trim());
         }
         return numbers;
     }
 
-    private String counts() {
-        StringBuilder text = new StringBuilder();
-        for (int what = 0; what < COUNTS; what++) {
-            text.append(what == 0 ? "" : " ").append(outcome("count", new Object[] {what}));
+    private void checkCalls(HeapCalls played) {
+        if (played.made() > HeapCalls.MOST_CALLS) {
+            tell("a heap is called " + played.made() + " times, and nothing is promised after " + HeapCalls.MOST_CALLS);
         }
-        return text.toString();
-    }
-
-    private String seen() {
-        StringBuilder text = new StringBuilder(counts());
-        for (int root = 0; root < ROOTS; root++) {
-            text.append(" root ").append(outcome("lockedBy", new Object[] {0, root}));
-        }
-        int handles = Math.min(heap.count(1), MOST_HANDLES_SEEN);
-        calls++;
-        for (int handle = 1; handle <= handles; handle++) {
-            text.append(" object ").append(outcome("lockedBy", new Object[] {handle, 0}));
-        }
-        return text.toString();
     }
 
     private void expect(String line, String due, String got) {
